@@ -52,7 +52,6 @@ public final class HandshakeBinds {
     private static final int SORT_BYTE = 0;
     private static final int SORT_SHORT = 1;
     private static final int SORT_INT = 2;
-    private static final int SORT_LONG = 3;
     private static final int SORT_BOOLEAN = 4;
     private static final int SORT_NOTHING = -1;
 
@@ -991,7 +990,8 @@ public final class HandshakeBinds {
         }
 
         void addTest(int letter, int sign, int number) {
-            addStep(letter << 14 | sign << 7 | number);
+            put(steps, size, letter << 14 | sign << 7 | number);
+            size++;
         }
 
         /** The steps since the last clause's end are the condition of this one. */

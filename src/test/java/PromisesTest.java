@@ -178,6 +178,8 @@ public final class PromisesTest {
         due(x.of(0, 3), 42);
         due(x.of(0, 4), 10004);
         due(x.of(0, 5), 9962);
+        due(x.of(1, 3), 5);
+        due(x.of(1, 4), 30);
         due(x.of(1, 5), 25);
         due(x.of(2, 5), 12 - 9999);
         due(x.of(2, 0), 6);
@@ -227,6 +229,17 @@ public final class PromisesTest {
         due(x.of(0, 7), 10);
         due(x.of(1, 7), 500);
         due(x.of(0, 6), 3);
+
+        // With 0 saved, the others of a ring pay too, the last of them to 0.
+        x = traders(3);
+        for (int one = 0; one < 3; one++) {
+            x.purse(one, 0);
+            x.owe(one, (one + 1) % 3, 500);
+        }
+        x.owe(0, 1, 510);
+        due(x.told(2), 7);
+        due(x.of(0, 7), 10);
+        due(x.of(1, 7), 500);
 
         x = traders(3);
         x.purse(0, 0);
@@ -304,6 +317,13 @@ public final class PromisesTest {
         due(x.reads(4, 0, 50, 0), 0);
         due(x.reads(4, 0, 50, 1), 60);
 
+        exchange(x, "bind 0");
+        due(x.reads(4, 0, 50, 0), 0);
+        due(x.reads(4, 0, 0, 1), 10);
+
+        x = with(0, 6);
+        x.row(1, 2, 8);
+        due(x.reads(1, 0, 10, 2), 13);
         x = with(6, 0);
         x.row(0, 0, 9);
         x.row(0, 3, 2);
@@ -352,6 +372,13 @@ public final class PromisesTest {
         due(readUnder("firm 1 !p=1&!q=0", 50, 0), 51);
         due(readUnder("firm 1 p=1|!p=0&q=1", 50, 0), 50);
         due(readUnder("firm 1 ((p=0)&(!(q=2)))", 50, 0), 51);
+
+        HandshakeBinds all = with(0, 1, 4);
+        exchange(all, "firm 1 p=0;firm 2 p=1;firm 4 p=2;firm 8 q=0;firm 16 q=1;firm 32 q=2;limp 3 k=4");
+        due(all.reads(0, 1, 20, 0), 20 + 1 + 16);
+        due(all.reads(1, 0, 20, 0), 20 + 2 + 8);
+        due(all.reads(1, 2, 20, 0), 20 + 2 + 32);
+        due(all.reads(2, 0, 20, 0), 20 + 4 + 8 - 3);
 
         // Ahead of gloves, a force below 0 is cut toward 0; the row may bring it back.
         HandshakeBinds x = with(6, 2);
@@ -407,9 +434,12 @@ public final class PromisesTest {
         due(x.shake(0, 1, 8), 9998);
         due(x.shake(0, 1, 9), 9999);
         due(x.shake(0, 1, 99), 9999);
-        exchange(x, "firm 30 d=2");
+        exchange(x, "firm 30 d=2;limp 9 p=0;bind 0");
         x.pass(2);
         due(x.shake(1, 0, 10), 40);
+        due(x.shake(1, 0, 0), 70);
+        x.owe(0, 1, 0);
+        due(x.shake(0, 1, 10), 31);
         due(x.of(0, 2), 100);
     }
 
@@ -455,6 +485,13 @@ public final class PromisesTest {
         due(x.squeezes(0, 1, 0, -1), NONE);
         due(x.squeezes(0, 2, 0, 0), NONE);
         due(x.squeezes(2, 2, 50, 0), NONE);
+        x.trader(1, 3);
+        exchange(x, "bind 0");
+        due(x.squeezes(0, 1, 1, 0), 1);
+        due(x.squeezes(0, 1, 1, 1), 1);
+        due(x.squeezes(2, 1, 6, 0), 1);
+        due(x.squeezes(2, 1, 6, 1), 0);
+        due(x.between(2, 1, 1), 100);
         exchange(x, "firm 10 s=2&d=1");
         due(x.squeezes(0, 1, 30, 0), 1);
         x.pass(1);
@@ -529,6 +566,22 @@ public final class PromisesTest {
         due(x.exchange(), FULL);
         due(x.count(1), 6);
         due(x.reads(0, 1, 20, 0), 15);
+
+        // Nothing of a text that was read, or was none, stays in the next.
+        x = traders(2);
+        due(exchange(x, "bind 77"), 0);
+        due(exchange(x, "bind 8"), 1);
+        due(x.told(1), 8);
+        due(exchange(x, "bind"), -14);
+        for (int i = 0; i < 9; i++) {
+            due(exchange(x, "firm 9 p=0;firm 9 p=0;firm 9 p=0;firm 9 p=0|q=1|q=1|q=1|q=1|q=1|q=1|q=1|q=1|q=1;bind 66;firm 9 p<9;"), -109);
+        }
+        due(exchange(x, "firm 1 p=1;limp 2 !p=1&(q=1|q=2)"), 2);
+        due(x.told(1), 5);
+        due(x.reads(0, 1, 50, 0), 48);
+        due(x.reads(1, 0, 50, 0), 51);
+        due(exchange(x, "bind 1"), 3);
+        due(x.reads(0, 1, 50, 0), 50);
 
         x = traders(2);
         String hundred = "firm 99 p<9;firm 99 p<9;firm 99 p<9;firm 99 p<9;firm 99 p<9;firm 99 p<9;firm 99 p<9;firm 99 p<9&q<99";
@@ -775,6 +828,12 @@ public final class PromisesTest {
         due(x.told(7), 148);
         x.owe(1, 0, 150);
         due(x.told(6), 58);
+        x = traders(6);
+        x.owe(1, 0, 9);
+        x.owe(5, 0, 9);
+        x.owe(4, 5, 2);
+        x.owe(5, 4, 3);
+        due(x.told(6), 19);
     }
 
     private static void pass() {
@@ -851,6 +910,17 @@ public final class PromisesTest {
         due(x.wrong(), LACKING);
         x.pass(1);
         due(x.wrong(), 0);
+
+        x = new HandshakeBinds();
+        x.trader(0, 1);
+        x.trader(1, 2);
+        x.trader(1, 3);
+        exchange(x, "firm 30 q=2");
+        x.see(1, 0, 20, 0, 24);
+        x.see(2, 0, 20, 0, 26);
+        x.see(1, 2, 20, 0, 54);
+        x.see(2, 1, 2, 0, 8);
+        due(x.wrong(), LACKING);
     }
 
     private static void can() {
@@ -893,6 +963,10 @@ public final class PromisesTest {
         HandshakeBinds x = new HandshakeBinds();
         due(x.odds(0), NO);
         due(x.odds(1), NO);
+        x.trader(0, 0);
+        due(x.odds(0), 1);
+        due(x.odds(1), 1);
+        due(x.mean(0), 100);
         x = traders(4);
         due(x.odds(0), 1);
         due(x.odds(1), 1);
@@ -1013,6 +1087,21 @@ public final class PromisesTest {
         x.plan(1, 1);
         due(x.ends(0), 0);
 
+        // Each of six, and no one else's debts.
+        x = traders(6);
+        x.owe(0, 5, 7);
+        x.owe(1, 0, 9);
+        x.owe(5, 0, 8);
+        x.plan(1, 0);
+        due(x.ends(0), 17);
+        x.plan(2, 5);
+        due(x.ends(0), 9);
+        x.plan(-1, 0);
+        x.plan(2, 0);
+        due(x.ends(0), 17);
+        x.plan(3, 0);
+        due(x.ends(0), 0);
+
         // No purse holds more than 9999.
         x = traders(3);
         x.purse(0, 9999);
@@ -1065,6 +1154,10 @@ public final class PromisesTest {
         due(x.looked(), LACKING);
         x.owe(0, 1, 1);
         due(x.looked(), 0);
+        x.book(-1, 0, 0);
+        due(x.looked(), LACKING);
+        x.book(0, 1, 1);
+        due(x.looked(), LACKING);
     }
 
     // ---- judging, the image, acts, tapes
@@ -1136,9 +1229,12 @@ public final class PromisesTest {
         x.row(0, 2, 9);
         x.row(0, 1, 9);
         x.pass(9);
-        x.see(0, 1, 50, 0, 1);
+        x.see(-1, 0, 0, 0, 0);
+        x.see(1, 0, 50, 0, 50);
         x.plan(-1, 0);
+        x.plan(0, 0);
         x.book(-1, 0, 0);
+        x.book(0, 1, 11);
         exchange(x, "bind 45");
         x.trader(6, 8);
         x.owe(3, 0, 77);
@@ -1307,6 +1403,14 @@ public final class PromisesTest {
         x.act(1, 2, 5);
         x.act(1, 0, 5);
         trail(x, 10);
+        for (int kind = 0; kind < 7; kind++) {
+            x = with(kind);
+            for (int act : new int[] {-1, 3, 4, LEAST, MOST}) {
+                x.act(0, 0, 9);
+                due(x.act(0, act, 9), 0);
+                trail(x);
+            }
+        }
     }
 
     private static void taken() {
@@ -1373,8 +1477,10 @@ public final class PromisesTest {
         due(x.tape(0, 0, -1), SIZE);
         due(x.tape(0, 0, LEAST), SIZE);
         due(x.read(0, 59), 0);
+        x.item(0, 0, 9);
         x.item(0, 3, 9);
         due(x.tape(0, 3, 10), 1);
+        due(x.read(0, 0), 0);
         due(x.read(0, 3), 0);
         x.item(0, 3, 9);
         due(x.tape(0, 3, 10), 1);
