@@ -241,6 +241,19 @@ public final class PromisesTest {
         due(x.of(0, 7), 10);
         due(x.of(1, 7), 500);
 
+        // All whom one saves pay it, each for itself.
+        x = traders(3);
+        for (int one = 0; one < 3; one++) {
+            x.purse(one, 0);
+        }
+        x.owe(1, 0, 255);
+        x.owe(1, 2, 255);
+        x.owe(0, 1, 250);
+        x.owe(2, 1, 250);
+        due(x.told(2), 7);
+        due(x.of(1, 7), 10);
+        due(x.of(0, 7), 250);
+
         x = traders(3);
         x.purse(0, 0);
         x.owe(0, 1, 9999);
@@ -582,6 +595,9 @@ public final class PromisesTest {
         due(x.reads(1, 0, 50, 0), 51);
         due(exchange(x, "bind 1"), 3);
         due(x.reads(0, 1, 50, 0), 50);
+        due(exchange(x, "firm 9 p=0;firm 9 p=0;firm 9 p=0;"), -43);
+        due(exchange(x, "firm 1 p=0"), 4);
+        due(x.reads(0, 1, 50, 0), 51);
 
         x = traders(2);
         String hundred = "firm 99 p<9;firm 99 p<9;firm 99 p<9;firm 99 p<9;firm 99 p<9;firm 99 p<9;firm 99 p<9;firm 99 p<9&q<99";
@@ -1231,9 +1247,12 @@ public final class PromisesTest {
         x.pass(9);
         x.see(-1, 0, 0, 0, 0);
         x.see(1, 0, 50, 0, 50);
+        x.see(1, 0, 50, 0, 50);
         x.plan(-1, 0);
         x.plan(0, 0);
+        x.plan(0, 0);
         x.book(-1, 0, 0);
+        x.book(0, 1, 11);
         x.book(0, 1, 11);
         exchange(x, "bind 45");
         x.trader(6, 8);
