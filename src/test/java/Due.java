@@ -22,7 +22,7 @@ final class Due {
             StackTraceElement[] calls = new Throwable().getStackTrace();
             int line = 0;
             for (StackTraceElement e : calls) {
-                if (!e.getClassName().equals("Due")) {
+                if (!e.getMethodName().equals("due")) {
                     line = e.getLineNumber();
                     break;
                 }

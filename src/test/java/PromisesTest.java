@@ -1,11 +1,5 @@
 /** Each promise by hand: ordinary inputs, the edges that the document names, wrong inputs. */
-public final class PromisesTest {
-    private static final int NONE = -1, BAD = -2, STATE = -3, FULL = -4;
-    private static final int LACKING = -5, NOTHING = -11, CAST = -12, PLACE = -13, SIZE = -14;
-    private static final int NONE_BELOW_ZERO = -1000001;
-    private static final long NO = Long.MIN_VALUE;
-    private static final int LEAST = Integer.MIN_VALUE, MOST = Integer.MAX_VALUE;
-
+public final class PromisesTest extends Given {
     private PromisesTest() {
     }
 
@@ -55,50 +49,6 @@ public final class PromisesTest {
         read();
         shift();
         Due.finish();
-    }
-
-    // ---- what the tests share
-
-    private static void due(long got, long want) {
-        Due.due(got, want);
-    }
-
-    /** Traders of the kinds given, with v 0. */
-    private static HandshakeBinds with(int... kinds) {
-        HandshakeBinds x = new HandshakeBinds();
-        for (int kind : kinds) {
-            x.trader(kind, 0);
-        }
-        return x;
-    }
-
-    private static HandshakeBinds traders(int n) {
-        return with(new int[n]);
-    }
-
-    private static int exchange(HandshakeBinds x, String text) {
-        for (int i = 0; i < text.length(); i++) {
-            x.feed(text.charAt(i));
-        }
-        return x.exchange();
-    }
-
-    private static int faultOf(String text) {
-        int answer = exchange(new HandshakeBinds(), text);
-        return answer <= -10 ? -10 - answer : -1;
-    }
-
-    private static String repeat(String part, int n) {
-        return part.repeat(n);
-    }
-
-    /** What a squeeze of 0 to 1 is read as under a text, by a trader of v 3. */
-    private static int readUnder(String text, int squeeze, int days) {
-        HandshakeBinds x = new HandshakeBinds();
-        x.trader(0, 3);
-        x.trader(0, 0);
-        due(exchange(x, text), 0);
-        return x.reads(0, 1, squeeze, days);
     }
 
     private static void constants() {
